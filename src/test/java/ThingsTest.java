@@ -1,0 +1,342 @@
+/** Promises 31 to 42, 44 and 45: ROWS, SHEETS, SHELVES, ACTS, and markets kept. */
+public final class ThingsTest {
+    private static final Due due = new Due("ThingsTest");
+
+    public static void main(String[] args) {
+        promises31To33();
+        promise34();
+        promise35();
+        promises36To38();
+        promises39And40();
+        rowsOnShelves();
+        promises41And42();
+        partedBy0();
+        actsWithoutTrace();
+        promises44And45();
+        due.end();
+    }
+
+    private static void promises31To33() {
+        WoolMarket m = Due.told("buyer truth 30 web 2; buyer truth 20 web 1;");
+        due.is("31 three", m.prove(1, 3), 3);
+        // 0 sees 20 less a little: 19, 19, 20; 1 sees 30 less a little: 29, 30, 30.
+        int[][] want = {{0, 40, 2}, {0, 29, 3}, {0, 19, 3}};
+        for (int i = 0; i < 3; i++) {
+            for (int what = 0; what < 3; what++) {
+                due.is("32 row " + i + " " + what, m.row(i, what), want[i][what]);
+            }
+        }
+        due.is("31 nothing changes", m.state(0), 0);
+        due.is("32 no such row", m.row(3, 0), -9);
+        due.is("32 no such row", m.row(-1, 0), -9);
+        due.is("32 no such what", m.row(0, 3), -9);
+        due.is("32 no such what", m.row(0, -1), -9);
+        due.is("33 alter", m.alterRow(2, 1, -77), 19);
+        due.is("33 it is so", m.row(2, 1), -77);
+        due.is("33 it was", m.alterRow(2, 1, 19), -77);
+        due.is("33 no such row", m.alterRow(3, 0, 1), -9);
+        due.is("33 no such row", m.alterRow(-1, 0, 1), -9);
+        due.is("33 no such what", m.alterRow(0, 3, 1), -9);
+        due.is("33 no such what", m.alterRow(0, -1, 1), -9);
+        due.is("31 fewer", m.prove(0, 1), 1);
+        due.is("32 there is none such now", m.row(1, 0), -9);
+        due.is("31 none", m.prove(0, 0), -1);
+        due.is("31 above", m.prove(0, 11), -1);
+        due.is("31 no such one", m.prove(2, 1), -1);
+        due.is("31 no such one", m.prove(-1, 1), -1);
+        due.is("31 rows stay", m.many(4), 1);
+        due.is("31 ten", m.prove(0, 10), 10);
+        due.is("32 the tenth", m.row(9, 2), 3);
+    }
+
+    private static void promise34() {
+        WoolMarket m = Due.told("buyer truth 30 web 20; buyer truth 20 web 9;");
+        due.is("34 no rows", m.judge(0), 0);
+        due.is("34 no such one", m.judge(2), -1);
+        due.is("34 no such one", m.judge(-1), -1);
+        m.prove(0, 10);
+        due.is("34 right", m.judge(0), 0);
+        due.is("34 of another", m.judge(1), 1);
+        for (int what = 0; what < 3; what++) {
+            int was = m.alterRow(9, what, 5000);
+            due.is("34 the tenth", m.judge(0), 10);
+            int first = m.alterRow(4, what, 5000);
+            due.is("34 the first that isn't", m.judge(0), 5);
+            m.alterRow(4, what, first);
+            m.alterRow(9, what, was);
+            due.is("34 right again", m.judge(0), 0);
+        }
+        m.change(0, 4, 51);
+        due.is("34 from how it is now", m.judge(0), 1);
+    }
+
+    private static void promise35() {
+        WoolMarket m = Due.told("buyer; buyer; buyer; buyer web 7;");
+        m.sheet(1, 0, 5);
+        int[] bytes = {99, 100, 127, -128, 42};
+        for (int i = 0; i < 5; i++) {
+            m.put(1, i, bytes[i]);
+        }
+        due.is("35 three", m.minds(1, 2, 0, 3), 3);
+        int[] webs = {99, 0, 42, 7};
+        for (int i = 0; i < 4; i++) {
+            due.is("35 web", m.of(i, 3), webs[i]);
+        }
+        due.is("35 to the last", m.minds(1, 0, 2, 2), 2);
+        due.is("35 web", m.of(2, 3), 99);
+        due.is("35 web", m.of(3, 3), 99);
+        due.is("35 none", m.minds(1, 5, 0, 0), 0);
+        due.is("35 beyond the last one", m.minds(1, 0, 2, 3), -1);
+        due.is("35 no such one", m.minds(1, 0, 4, 0), -1);
+        due.is("35 no such one", m.minds(1, 0, -1, 0), -1);
+        due.is("35 no such sheet", m.minds(4, 0, 0, 0), -1);
+        due.is("35 n", m.minds(1, 0, 0, -1), -1);
+        due.is("35 n", m.minds(1, 0, 0, 9), -1);
+        due.is("35 missing", m.minds(0, 9, 0, 0), -11);
+        for (int sort = 1; sort < 4; sort++) {
+            m.sheet(2, sort, 3);
+            due.is("35 another sort", m.minds(2, 9, 0, 0), -13);
+        }
+        due.is("35 outside", m.minds(1, -1, 0, 0), -12);
+        due.is("35 outside", m.minds(1, 6, 0, 0), -12);
+        due.is("35 not so many", m.minds(1, 3, 0, 3), -12);
+        due.is("35 far outside", m.minds(1, Integer.MAX_VALUE, 0, 4), -12);
+        due.is("35 unchanged", m.of(0, 3), 99);
+        m.sheet(3, 0, 0);
+        due.is("35 of an empty row", m.minds(3, 0, 0, 0), 0);
+    }
+
+    private static void promises36To38() {
+        WoolMarket m = new WoolMarket();
+        long[] narrow = {(byte) 0x12345687, (short) 0x12345687, 0x12345687, 0x12345687};
+        for (int sort = 0; sort < 4; sort++) {
+            due.is("36 sheet", m.sheet(sort, sort, 40), 1);
+            due.is("37 put", m.put(sort, 39, 0x12345687), 1);
+            due.is("38 item", m.item(sort, sort, 39), narrow[sort]);
+            due.is("38 others", m.item(sort, sort, 38), 0);
+            due.is("38 another sort", m.item(sort, (sort + 1) % 4, 39), -13);
+            due.is("38 another sort before outside", m.item(sort, (sort + 1) % 4, 40), -13);
+            due.is("38 outside", m.item(sort, sort, 40), -12);
+            due.is("38 outside", m.item(sort, sort, -1), -12);
+            due.is("37 outside", m.put(sort, 40, 1), -12);
+            due.is("37 outside", m.put(sort, -1, 1), -12);
+            m.put(sort, 0, -13);
+            due.is("38 as low as a refusal", m.item(sort, sort, 0), -13);
+        }
+        due.is("36 all 0 again", m.sheet(0, 0, 40), 1);
+        due.is("38 all 0 again", m.item(0, 0, 39), 0);
+        due.is("36 no items", m.sheet(0, 2, 0), 1);
+        due.is("37 no items", m.put(0, 0, 1), -12);
+        due.is("36 missing", m.sheet(0, -1, Integer.MAX_VALUE), 1);
+        due.is("38 missing", m.item(0, 0, 0), -11);
+        due.is("37 missing", m.put(0, 0, 0), -11);
+        due.is("36 missing, below 0", m.sheet(0, -1, -1), 1);
+        due.is("36 above", m.sheet(1, 1, 41), -1);
+        due.is("36 below 0", m.sheet(1, 1, -1), -14);
+        due.is("36 no such sort", m.sheet(1, 4, -1), -1);
+        due.is("36 no such sort", m.sheet(1, -2, 1), -1);
+        due.is("36 no such sheet", m.sheet(4, 1, -1), -1);
+        due.is("36 no such sheet", m.sheet(-1, 1, 1), -1);
+        due.is("36 unchanged", m.item(1, 1, 39), narrow[1]);
+        due.is("37 no such sheet", m.put(4, 0, 0), -1);
+        due.is("37 no such sheet", m.put(-1, 0, 0), -1);
+        due.is("38 no such sheet", m.item(4, 0, 0), -1);
+        due.is("38 no such sort", m.item(0, 4, 0), -1);
+        due.is("38 no such sort", m.item(0, -1, 0), -1);
+    }
+
+    private static void promises39And40() {
+        WoolMarket m = Due.told("buyer; wife; magistrate; knitter; clerk; uncle;");
+        boolean[][] under = {
+            {true, false, false, false, false, false},
+            {true, true, false, false, false, false},
+            {true, false, true, false, false, false},
+            {true, true, false, true, false, false},
+            {true, false, true, false, true, false},
+            {true, false, false, false, false, true}};
+        for (int kind = 0; kind < 6; kind++) {
+            due.is("39 one", m.shelf(kind % 4, 0, kind), 1);
+            for (int as = 0; as < 6; as++) {
+                due.is("40 " + kind + " as " + as, m.taken(kind % 4, as), under[kind][as] ? kind : -13);
+            }
+            for (int as = 10; as < 14; as++) {
+                due.is("40 one as a row", m.taken(kind % 4, as), -13);
+            }
+        }
+        due.is("39 nothing", m.shelf(0, 2, -5), 1);
+        due.is("40 nothing", m.taken(0, 0), -11);
+        due.is("40 nothing as a row", m.taken(0, 10), -11);
+        int[] noSuch = {-1, 6, 9, 14, Integer.MIN_VALUE};
+        for (int as : noSuch) {
+            due.is("40 no such as", m.taken(0, as), -1);
+        }
+        due.is("40 no such shelf", m.taken(4, 0), -1);
+        due.is("40 no such shelf", m.taken(-1, 0), -1);
+        due.is("39 no such shelf", m.shelf(4, 2, 0), -1);
+        due.is("39 no such shelf", m.shelf(-1, 2, 0), -1);
+        due.is("39 no such what", m.shelf(0, 3, 0), -1);
+        due.is("39 no such what", m.shelf(0, -1, 0), -1);
+        due.is("39 no such one", m.shelf(1, 0, 6), -1);
+        due.is("39 no such one", m.shelf(1, 0, -1), -1);
+        due.is("39 no such sheet", m.shelf(1, 1, 4), -1);
+        due.is("39 no such sheet", m.shelf(1, 1, -1), -1);
+        due.is("39 unchanged", m.taken(1, 5), 5);
+        m.mind(5, 3, 0);
+        due.is("40 of the kind that it is now", m.taken(1, 1), 5);
+        Due.read(m, "buyer;");
+        due.is("40 no such one at the time", m.taken(1, 1), -11);
+        Due.read(m, "buyer;buyer;buyer;buyer;buyer;clerk;");
+        due.is("40 such a one again", m.taken(1, 2), 5);
+    }
+
+    private static void rowsOnShelves() {
+        WoolMarket m = Due.told("buyer;");
+        for (int sort = 0; sort < 4; sort++) {
+            m.sheet(sort, sort, 7 + sort);
+            due.is("39 row", m.shelf(0, 1, sort), 1);
+            for (int as = 0; as < 4; as++) {
+                due.is("40 row", m.taken(0, 10 + as), as == sort ? 7 + sort : -13);
+            }
+            due.is("40 row as one", m.taken(0, 0), -13);
+        }
+        m.sheet(3, 0, 2);
+        due.is("40 the row stays on the shelf", m.taken(0, 13), 10);
+        m.sheet(3, -1, 0);
+        due.is("40 the row stays on the shelf", m.taken(0, 13), 10);
+        due.is("39 a missing row", m.shelf(0, 1, 3), 1);
+        due.is("40 is nothing", m.taken(0, 13), -11);
+    }
+
+    private static void promises41And42() {
+        WoolMarket m = Due.told("buyer truth 9;buyer truth 9;wife truth 5;magistrate truth 5;knitter truth 7;clerk truth 9;uncle truth 2;");
+        // Buyer 1: n 1, a 9.
+        acts(m, 1, 0, 5, 9, 10);
+        acts(m, 1, 1, 5, 18, 11, 10);
+        acts(m, 1, 2, -17, -2, 12);
+        acts(m, 1, 3, 5, 18 ^ 24, 13, 11, 10);
+        // Wife 2: n 2, a 5.
+        acts(m, 2, 0, 1, 9, 10);
+        acts(m, 2, 1, 1, 27 - 5 - 6, 20, 11, 10);
+        acts(m, 2, 2, 10, 3, 12);
+        acts(m, 2, 3, 1, 16 ^ 24, 13, 20, 11, 10);
+        // Magistrate 3: n 3, a 5; it parts n by 2.
+        acts(m, 3, 0, 1, 13 ^ 2, 30, 10);
+        acts(m, 3, 1, 1, 15 * 3 - 5, 11, 30, 10);
+        acts(m, 3, 2, 9, 4, 12);
+        acts(m, 3, 3, 1, (40 ^ 24) + 1, 31, 13, 11, 30, 10, 12);
+        // Knitter 4: n 4, a 7.
+        acts(m, 4, 0, 1, 24, 51, 10);
+        acts(m, 4, 1, 1, 72 - 7 - 6, 20, 11, 51, 10);
+        acts(m, 4, 2, 12, 6, 50, 12);
+        acts(m, 4, 3, 1, 59 ^ 24, 13, 20, 11, 51, 10);
+        // Clerk 5: n 5, a 9; it sees 3 less 21 ^ 2 of 1, and 3 less 29 ^ 2 of 9.
+        acts(m, 5, 0, 1, 3 - 23, 40, 30, 10);
+        int paid = (-20 * 3 - 9) ^ (3 - 31);
+        acts(m, 5, 1, 1, paid, 41, 11, 40, 30, 10, 40, 30, 10);
+        acts(m, 5, 2, -7, -1, 12);
+        acts(m, 5, 3, 1, (paid ^ 24) + 1, 31, 13, 41, 11, 40, 30, 10, 40, 30, 10, 12);
+        // Uncle 6: n 6, a 2; it sees 30 of n.
+        acts(m, 6, 0, 1, 25, 10);
+        acts(m, 6, 1, 1, 73, 11, 10);
+        acts(m, 6, 2, 9, -2 - 30, 61, 12, 10);
+        acts(m, 6, 3, 1, (73 ^ 24) * 5, 60, 13, 11, 10);
+        // Numbers wrap.
+        acts(m, 1, 0, Integer.MAX_VALUE, Integer.MIN_VALUE + 3, 10);
+        m.change(5, 1, 4);
+        acts(m, 5, 2, Integer.MIN_VALUE, Integer.MIN_VALUE, 12);
+        m.change(4, 1, 5);
+        acts(m, 4, 2, Integer.MIN_VALUE, -2, 50, 12);
+        acts(m, 0, 3, 1_000_000_000, (int) (3_000_000_000L - 9) ^ 24, 13, 11, 10);
+    }
+
+    private static void acts(WoolMarket m, int person, int act, int x, int answer, int... bodies) {
+        String call = "41 act " + act + " of " + person;
+        m.shelf(3, 0, person);
+        due.is(call, m.act(3, act, x), answer);
+        due.is("42 how many, " + call, m.many(6), bodies.length);
+        for (int i = 0; i < bodies.length; i++) {
+            due.is("42 body " + i + ", " + call, m.trace(i), bodies[i]);
+        }
+        due.is("42 beyond, " + call, m.trace(bodies.length), -3);
+        due.is("42 below, " + call, m.trace(-1), -3);
+    }
+
+    private static void partedBy0() {
+        WoolMarket m = Due.told("buyer;wife truth 1;magistrate truth 2;knitter truth 3;clerk truth 4;uncle truth 5;");
+        acts(m, 0, 2, 9, -15, 12);
+        acts(m, 1, 2, 9, -15, 12);
+        acts(m, 2, 3, 9, -15, 31, 13, 11, 30, 10, 12);
+        acts(m, 3, 2, 9, -15, 50, 12);
+        acts(m, 4, 3, 9, -15, 31, 13, 41, 11, 40, 30, 10, 40, 30, 10, 12);
+        // What the uncle sees comes behind his parting, and isn't begun.
+        acts(m, 5, 2, 9, -15, 61, 12);
+        acts(m, 5, 0, 9, 29, 10);
+    }
+
+    private static void actsWithoutTrace() {
+        WoolMarket m = Due.told("buyer truth 9;wife;");
+        m.sheet(0, 0, 3);
+        m.shelf(0, 0, 0);
+        m.shelf(1, 1, 0);
+        m.shelf(2, 0, 1);
+        int[][] wrong = {{-1, 0}, {4, 0}, {0, -1}, {0, 4}, {1, 0}, {3, 0}};
+        for (int[] w : wrong) {
+            due.is("41 an act", m.act(0, 1, 4), 3);
+            due.is("42 its trace", m.many(6), 2);
+            due.is("41 none", m.act(w[0], w[1], 5), 0);
+            due.is("42 no trace", m.many(6), 0);
+            due.is("42 no trace", m.trace(0), -3);
+        }
+        due.is("41 wife", m.act(2, 0, 5), 9);
+        Due.read(m, "clerk truth 9;");
+        due.is("41 no such one at the time", m.act(2, 0, 5), 0);
+        due.is("42 no trace", m.many(6), 0);
+        due.is("41 of the kind that it is now", m.act(0, 0, 5), 3 - 7);
+    }
+
+    private static void promises44And45() {
+        WoolMarket m = Due.told("buyer truth 9; clerk truth 8 web 7; toll 3; slip 44;");
+        due.is("45 nothing is kept", m.again(), -3);
+        m.seed(321);
+        m.days(2);
+        int coins = m.of(0, 4);
+        due.is("44 keep", m.keep(), 1);
+        m.feed(0, 2);
+        m.prove(0, 3);
+        m.sheet(0, 0, 2);
+        m.shelf(0, 0, 1);
+        m.act(0, 0, 1);
+        m.day();
+        m.set(2, 8);
+        m.person(0, 0, 0, 0);
+        m.change(0, 4, 0);
+        m.mind(1, 5, 9);
+        m.trade(0, 1);
+        due.is("45 again", m.again(), 2);
+        due.is("45 day", m.state(0), 2);
+        due.is("45 chest", m.state(1), 12);
+        due.is("45 toll", m.lawOf(2), 3);
+        due.is("45 slip", m.lawOf(3), 44);
+        due.is("45 coins", m.of(0, 4), coins);
+        due.is("45 kind", m.of(1, 0), 4);
+        due.is("45 z", m.seed(5), 321);
+        due.is("45 tape", m.many(5), 2);
+        due.is("45 rows", m.many(4), 3);
+        due.is("45 sheets", m.item(0, 0, 1), 0);
+        due.is("45 shelves", m.taken(0, 2), 1);
+        due.is("45 trace", m.many(6), 3);
+        m.days(60);
+        due.is("45 it stays", m.again(), 2);
+        due.is("45 it stays", m.state(0), 2);
+        due.is("45 z", m.seed(6), 321);
+        m.person(1, 1, 1, 1);
+        due.is("44 the latest", m.keep(), 1);
+        Due.read(m, "");
+        due.is("45 the latest", m.again(), 3);
+        WoolMarket nobody = new WoolMarket();
+        nobody.keep();
+        nobody.person(0, 0, 0, 0);
+        due.is("45 nobody", nobody.again(), 0);
+        due.is("45 nobody", nobody.many(0), 0);
+    }
+}
