@@ -118,6 +118,8 @@ public final class AskedTest {
         due.is("25 alone", Due.told("buyer;").changeFor(0, 20), -3);
         // All are the same to it: of several the least, and none if it isn't more.
         due.is("25 no more", Due.told("buyer; buyer; buyer;").changeFor(1, 3), -3);
+        // In the place of 0 it pays itself's old neighbour nothing: 0 is worth 40, and 1 would pay 2, worth 0.
+        due.is("25 with the first", Due.told("buyer truth 40; buyer; buyer;").changeFor(2, 1), 0);
         WoolMarket four = Due.told("buyer truth 1; buyer truth 20; buyer; buyer;");
         due.is("25 of several the least", four.changeFor(0, 1), 1);
         askedRefusals("25", m.changeFor(3, 1), m.changeFor(-1, 1), m.changeFor(0, 0), m.changeFor(0, 21));
@@ -197,6 +199,8 @@ public final class AskedTest {
 
     private static void promise29() {
         WoolMarket m = new WoolMarket();
+        due.is("29 of none", m.odds(0, 0, 0), 1);
+        due.is("29 of none", m.odds(0, 0, 1), 1);
         m.set(3, 50);
         due.is("29 4 of 8", m.odds(8, 4, 0), 35);
         due.is("29 4 of 8", m.odds(8, 4, 1), 128);

@@ -132,6 +132,10 @@ public final class DaysTest {
         due.is("15 nobody", nobody.day(), 0);
         due.is("15 nobody's day", nobody.state(0), 1);
         due.is("15 no draws", nobody.seed(3), 1);
+        WoolMarket one = Due.told("buyer web 50; slip 99; fray 0;");
+        due.is("15 alone", one.day(), 50);
+        due.is("15 alone it slips", one.of(0, 3), 0);
+        due.is("15 z behind two draws", one.seed(1), -1770082073);
         WoolMarket slips = Due.told("buyer truth 90; buyer web 99; slip 99;");
         slips.seed(5);
         int z = next(5);
@@ -165,6 +169,9 @@ public final class DaysTest {
             due.is("16 web stays", m.of(1, 3), 99);
             due.is("16 day stays", m.state(0), 0);
         }
+        // It pays 9 the first day, and 9 the next: without slips it has as much as its PURSE by 1, and more than by 2.
+        WoolMarket pays = Due.told("buyer; buyer truth 9 web 99; slip 0;");
+        due.is("16 more than by one day, not by two", pays.lucky(0, 30), 0);
         WoolMarket m = Due.told("buyer; buyer;");
         due.is("16 no such one", m.lucky(2, 1), -1);
         due.is("16 no such one", m.lucky(-1, 1), -1);

@@ -227,6 +227,11 @@ public final class PeopleTest {
         for (int what = 0; what < 7; what++) {
             due.is("43 many " + what, m.many(what), want[what]);
         }
+        m.change(2, 4, 1);
+        due.is("43 one coin", m.many(2), 4);
+        m.mind(3, 0, 0);
+        m.change(3, 3, 1);
+        due.is("43 the thinnest", m.many(3), 3);
         due.is("43 no such what", m.many(7), -1);
         due.is("43 no such what", m.many(-1), -1);
     }

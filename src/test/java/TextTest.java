@@ -75,6 +75,8 @@ public final class TextTest {
         fault("weft 3", 6);
         fault("buyers;", 0);
         fault("buye", 0);
+        fault("luyer;", 0);
+        fault("buyerz;", 0);
         fault(" Buyer;", 1);
         fault("buyerweb 5;", 0);
         fault("truth 5;", 0);
@@ -137,6 +139,10 @@ public final class TextTest {
         due.is("3 shelves stay", m.taken(1, 1), 0);
         due.is("3 no such one at the time", m.taken(0, 0), -11);
         due.is("3 the trace stays", m.trace(0), 10);
+        due.is("3 those who are gone have no coins", m.many(2), 1);
+        due.is("3 nor anything to wear", m.many(3), 0);
+        due.is("3 nor a place on the steps", m.state(3), 1);
+        due.is("3 nor is one fair with them", m.fair(0), 0);
         due.is("3 what is kept stays", m.again(), 2);
     }
 }

@@ -125,6 +125,7 @@ public final class ThingsTest {
         }
         due.is("36 all 0 again", m.sheet(0, 0, 40), 1);
         due.is("38 all 0 again", m.item(0, 0, 39), 0);
+        due.is("38 all 0 again", m.item(0, 0, 0), 0);
         due.is("36 no items", m.sheet(0, 2, 0), 1);
         due.is("37 no items", m.put(0, 0, 1), -12);
         due.is("36 missing", m.sheet(0, -1, Integer.MAX_VALUE), 1);
@@ -240,6 +241,9 @@ public final class ThingsTest {
         acts(m, 6, 1, 1, 73, 11, 10);
         acts(m, 6, 2, 9, -2 - 30, 61, 12, 10);
         acts(m, 6, 3, 1, (73 ^ 24) * 5, 60, 13, 11, 10);
+        // Where 2 is in it already, ^ 2 takes it away.
+        acts(m, 3, 0, 2, 12, 30, 10);
+        acts(m, 5, 0, 2, 3 - 20, 40, 30, 10);
         // Numbers wrap.
         acts(m, 1, 0, Integer.MAX_VALUE, Integer.MIN_VALUE + 3, 10);
         m.change(5, 1, 4);
