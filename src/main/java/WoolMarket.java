@@ -23,9 +23,7 @@ public final class WoolMarket {
     private final Market tried = new Market();
     private final Market kept = new Market();
     private boolean isKept;
-    private final byte[] tape = new byte[TAPE_MOST];
-    private int tapeLength;
-    private final TextReader reader = new TextReader(tape, tried);
+    private final Tape tape = new Tape();
     private final int[][] rows = new int[ROWS_MOST][ROW_PARTS];
     private int rowCount;
     private final Sheet[] sheets = new Sheet[PLACES];
@@ -44,24 +42,22 @@ public final class WoolMarket {
         if (!isWithin(n, 1, 8)) {
             return BAD;
         }
-        if (tapeLength > TAPE_MOST - n) {
+        if (tape.size > TAPE_MOST - n) {
             return FULL;
         }
-        for (int i = 0; i < n; i++) {
-            tape[tapeLength + i] = (byte) (eight >>> (8 * i));
-        }
-        tapeLength += n;
-        return tapeLength;
+        tape.takeBytes(eight, n);
+        return tape.size;
     }
 
     public int market() {
-        int fault = reader.readText(tapeLength);
-        tapeLength = 0;
+        int fault = tape.readText();
+        tape.size = 0;
         if (fault >= 0) {
             return TEXT_FAULT - fault;
         }
-        tried.z = now.z;
-        now.copyFrom(tried);
+        int z = now.z;
+        now.copyFrom(tape.told);
+        now.z = z;
         rowCount = 0;
         return now.count;
     }
@@ -461,7 +457,7 @@ public final class WoolMarket {
             case 2: return now.howManyHaveCoins();
             case 3: return now.howManyWear();
             case 4: return rowCount;
-            case 5: return tapeLength;
+            case 5: return tape.size;
             case 6: return thing.traceLength;
             default: return BAD;
         }
@@ -649,12 +645,12 @@ public final class WoolMarket {
         int chest;
         int z = 1;
 
+        /** But for z, which stays when a market is told in a text. */
         void becomeAsAtFirst() {
             System.arraycopy(LAW_AT_FIRST, 0, laws, 0, LAWS);
             count = 0;
             dayNumber = 0;
             chest = 0;
-            z = 1;
         }
 
         void copyFrom(Market from) {
@@ -853,28 +849,30 @@ public final class WoolMarket {
         }
     }
 
-    /** Reads the TEXT of a market, word by word; a word is a NAME, a NUMBER or another byte. */
-    private static final class TextReader {
+    /** THE TAPE, and the market of its TEXT, read word by word; a word is a NAME, a NUMBER or another byte. */
+    private static final class Tape {
         private static final int AT_END = 0, NAME = 1, NUMBER = 2, OTHER_BYTE = 3;
         private static final int NO_FAULT = -1;
 
-        private final byte[] text;
-        private final Market into;
-        private int length;
+        final Market told = new Market();
+        int size;
+        private final byte[] text = new byte[TAPE_MOST];
         private int next;
         private int word;
         private int wordStart;
 
-        TextReader(byte[] text, Market into) {
-            this.text = text;
-            this.into = into;
+        /** Only as many bytes as there is room for. */
+        void takeBytes(long eight, int n) {
+            for (int i = 0; i < n; i++) {
+                text[size + i] = (byte) (eight >>> (8 * i));
+            }
+            size += n;
         }
 
         /** The place of the FAULT, or below 0 if there is none. */
-        int readText(int byteCount) {
-            length = byteCount;
+        int readText() {
             next = 0;
-            into.becomeAsAtFirst();
+            told.becomeAsAtFirst();
             readWord();
             // Every entry takes two words at least, so there are fewer entries than bytes.
             for (int entries = 0; entries <= TAPE_MOST && word != AT_END; entries++) {
@@ -904,16 +902,16 @@ public final class WoolMarket {
             if (!isNumberTo(LAW_MOST[law])) {
                 return false;
             }
-            into.laws[law] = numberTold();
+            told.laws[law] = numberRead();
             readWord();
             return true;
         }
 
         private boolean readPerson(int kind) {
-            if (kind < 0 || into.isFull()) {
+            if (kind < 0 || told.isFull()) {
                 return false;
             }
-            int number = into.addPerson(kind);
+            int number = told.addPerson(kind);
             readWord();
             return readTrait(number, TRUTH, "truth", PERCENT_MOST)
                     && readTrait(number, WISH, "wish", PERCENT_MOST)
@@ -930,7 +928,7 @@ public final class WoolMarket {
             if (!isNumberTo(most)) {
                 return false;
             }
-            into.has[what][number] = numberTold();
+            told.has[what][number] = numberRead();
             readWord();
             return true;
         }
@@ -945,20 +943,20 @@ public final class WoolMarket {
         }
 
         private void readWord() {
-            while (next < length && text[next] == ' ') {
+            while (next < size && text[next] == ' ') {
                 next++;
             }
             wordStart = next;
-            if (next >= length) {
+            if (next >= size) {
                 word = AT_END;
             } else if (isLetter(text[next])) {
                 word = NAME;
-                while (next < length && isLetter(text[next])) {
+                while (next < size && isLetter(text[next])) {
                     next++;
                 }
             } else if (isDigit(text[next])) {
                 word = NUMBER;
-                while (next < length && isDigit(text[next])) {
+                while (next < size && isDigit(text[next])) {
                     next++;
                 }
             } else {
@@ -984,16 +982,16 @@ public final class WoolMarket {
         }
 
         private boolean isNumberTo(int most) {
-            return word == NUMBER && next - wordStart <= 3 && numberTold() <= most;
+            return word == NUMBER && next - wordStart <= 3 && numberRead() <= most;
         }
 
         /** Only of a NUMBER of three digits at most. */
-        private int numberTold() {
-            int told = 0;
+        private int numberRead() {
+            int number = 0;
             for (int i = wordStart; i < next; i++) {
-                told = told * 10 + (text[i] - '0');
+                number = number * 10 + (text[i] - '0');
             }
-            return told;
+            return number;
         }
 
         private static boolean isLetter(byte sign) {
