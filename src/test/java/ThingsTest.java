@@ -1,4 +1,7 @@
-/** Promises 31 to 42, 44 and 45: ROWS, SHEETS, SHELVES, ACTS, and markets kept. */
+/**
+ * Promises 31 to 42, 44 and 45: ROWS, SHEETS, SHELVES, ACTS, and markets kept. Edges: RowsEdges, SheetsEdges, ShelvesEdges,
+ * KeptEdges.
+ */
 public final class ThingsTest {
     private static final Due due = new Due("ThingsTest");
 
@@ -8,10 +11,8 @@ public final class ThingsTest {
         promise35();
         promises36To38();
         promises39And40();
-        rowsOnShelves();
         promises41And42();
-        partedBy0();
-        actsWithoutTrace();
+        actsOfThoseWhoAreThereNow();
         promises44And45();
         due.end();
     }
@@ -26,34 +27,15 @@ public final class ThingsTest {
                 due.is("32 row " + i + " " + what, m.row(i, what), want[i][what]);
             }
         }
-        due.is("31 nothing changes", m.state(0), 0);
-        due.is("32 no such row", m.row(3, 0), -9);
-        due.is("32 no such row", m.row(-1, 0), -9);
-        due.is("32 no such what", m.row(0, 3), -9);
-        due.is("32 no such what", m.row(0, -1), -9);
         due.is("33 alter", m.alterRow(2, 1, -77), 19);
         due.is("33 it is so", m.row(2, 1), -77);
         due.is("33 it was", m.alterRow(2, 1, 19), -77);
-        due.is("33 no such row", m.alterRow(3, 0, 1), -9);
-        due.is("33 no such row", m.alterRow(-1, 0, 1), -9);
-        due.is("33 no such what", m.alterRow(0, 3, 1), -9);
-        due.is("33 no such what", m.alterRow(0, -1, 1), -9);
-        due.is("31 fewer", m.prove(0, 1), 1);
-        due.is("32 there is none such now", m.row(1, 0), -9);
-        due.is("31 none", m.prove(0, 0), -1);
-        due.is("31 above", m.prove(0, 11), -1);
-        due.is("31 no such one", m.prove(2, 1), -1);
-        due.is("31 no such one", m.prove(-1, 1), -1);
-        due.is("31 rows stay", m.many(4), 1);
-        due.is("31 ten", m.prove(0, 10), 10);
-        due.is("32 the tenth", m.row(9, 2), 3);
+        due.is("31 fewer", m.prove(0, 2), 2);
+        due.is("32 of the other one now", m.row(0, 1), 60);
     }
 
     private static void promise34() {
         WoolMarket m = Due.told("buyer truth 30 web 20; buyer truth 20 web 9;");
-        due.is("34 no rows", m.judge(0), 0);
-        due.is("34 no such one", m.judge(2), -1);
-        due.is("34 no such one", m.judge(-1), -1);
         m.prove(0, 10);
         due.is("34 right", m.judge(0), 0);
         due.is("34 of another", m.judge(1), 1);
@@ -85,25 +67,6 @@ public final class ThingsTest {
         due.is("35 to the last", m.minds(1, 0, 2, 2), 2);
         due.is("35 web", m.of(2, 3), 99);
         due.is("35 web", m.of(3, 3), 99);
-        due.is("35 none", m.minds(1, 5, 0, 0), 0);
-        due.is("35 beyond the last one", m.minds(1, 0, 2, 3), -1);
-        due.is("35 no such one", m.minds(1, 0, 4, 0), -1);
-        due.is("35 no such one", m.minds(1, 0, -1, 0), -1);
-        due.is("35 no such sheet", m.minds(4, 0, 0, 0), -1);
-        due.is("35 n", m.minds(1, 0, 0, -1), -1);
-        due.is("35 n", m.minds(1, 0, 0, 9), -1);
-        due.is("35 missing", m.minds(0, 9, 0, 0), -11);
-        for (int sort = 1; sort < 4; sort++) {
-            m.sheet(2, sort, 3);
-            due.is("35 another sort", m.minds(2, 9, 0, 0), -13);
-        }
-        due.is("35 outside", m.minds(1, -1, 0, 0), -12);
-        due.is("35 outside", m.minds(1, 6, 0, 0), -12);
-        due.is("35 not so many", m.minds(1, 3, 0, 3), -12);
-        due.is("35 far outside", m.minds(1, Integer.MAX_VALUE, 0, 4), -12);
-        due.is("35 unchanged", m.of(0, 3), 99);
-        m.sheet(3, 0, 0);
-        due.is("35 of an empty row", m.minds(3, 0, 0, 0), 0);
     }
 
     private static void promises36To38() {
@@ -115,97 +78,33 @@ public final class ThingsTest {
             due.is("38 item", m.item(sort, sort, 39), narrow[sort]);
             due.is("38 others", m.item(sort, sort, 38), 0);
             due.is("38 another sort", m.item(sort, (sort + 1) % 4, 39), -13);
-            due.is("38 another sort before outside", m.item(sort, (sort + 1) % 4, 40), -13);
-            due.is("38 outside", m.item(sort, sort, 40), -12);
-            due.is("38 outside", m.item(sort, sort, -1), -12);
-            due.is("37 outside", m.put(sort, 40, 1), -12);
-            due.is("37 outside", m.put(sort, -1, 1), -12);
-            m.put(sort, 0, -13);
-            due.is("38 as low as a refusal", m.item(sort, sort, 0), -13);
         }
         due.is("36 all 0 again", m.sheet(0, 0, 40), 1);
         due.is("38 all 0 again", m.item(0, 0, 39), 0);
         due.is("38 all 0 again", m.item(0, 0, 0), 0);
-        due.is("36 no items", m.sheet(0, 2, 0), 1);
-        due.is("37 no items", m.put(0, 0, 1), -12);
-        due.is("36 missing", m.sheet(0, -1, Integer.MAX_VALUE), 1);
-        due.is("38 missing", m.item(0, 0, 0), -11);
-        due.is("37 missing", m.put(0, 0, 0), -11);
-        due.is("36 missing, below 0", m.sheet(0, -1, -1), 1);
-        due.is("36 above", m.sheet(1, 1, 41), -1);
-        due.is("36 below 0", m.sheet(1, 1, -1), -14);
-        due.is("36 no such sort", m.sheet(1, 4, -1), -1);
-        due.is("36 no such sort", m.sheet(1, -2, 1), -1);
-        due.is("36 no such sheet", m.sheet(4, 1, -1), -1);
-        due.is("36 no such sheet", m.sheet(-1, 1, 1), -1);
-        due.is("36 unchanged", m.item(1, 1, 39), narrow[1]);
-        due.is("37 no such sheet", m.put(4, 0, 0), -1);
-        due.is("37 no such sheet", m.put(-1, 0, 0), -1);
-        due.is("38 no such sheet", m.item(4, 0, 0), -1);
-        due.is("38 no such sort", m.item(0, 4, 0), -1);
-        due.is("38 no such sort", m.item(0, -1, 0), -1);
+        due.is("36 of another sort", m.sheet(0, 2, 5), 1);
+        due.is("37 put", m.put(0, 4, 70000), 1);
+        due.is("38 item", m.item(0, 2, 4), 70000);
+        due.is("36 missing", m.sheet(0, -1, 0), 1);
+        due.is("38 missing", m.item(0, 2, 4), -11);
     }
 
     private static void promises39And40() {
         WoolMarket m = Due.told("buyer; wife; magistrate; knitter; clerk; uncle;");
-        boolean[][] under = {
-            {true, false, false, false, false, false},
-            {true, true, false, false, false, false},
-            {true, false, true, false, false, false},
-            {true, true, false, true, false, false},
-            {true, false, true, false, true, false},
-            {true, false, false, false, false, true}};
         for (int kind = 0; kind < 6; kind++) {
             due.is("39 one", m.shelf(kind % 4, 0, kind), 1);
-            for (int as = 0; as < 6; as++) {
-                due.is("40 " + kind + " as " + as, m.taken(kind % 4, as), under[kind][as] ? kind : -13);
-            }
-            for (int as = 10; as < 14; as++) {
-                due.is("40 one as a row", m.taken(kind % 4, as), -13);
-            }
+            due.is("40 as what it is", m.taken(kind % 4, kind), kind);
+            due.is("40 as a buyer", m.taken(kind % 4, 0), kind);
         }
-        due.is("39 nothing", m.shelf(0, 2, -5), 1);
-        due.is("40 nothing", m.taken(0, 0), -11);
-        due.is("40 nothing as a row", m.taken(0, 10), -11);
-        int[] noSuch = {-1, 6, 9, 14, Integer.MIN_VALUE};
-        for (int as : noSuch) {
-            due.is("40 no such as", m.taken(0, as), -1);
-        }
-        due.is("40 no such shelf", m.taken(4, 0), -1);
-        due.is("40 no such shelf", m.taken(-1, 0), -1);
-        due.is("39 no such shelf", m.shelf(4, 2, 0), -1);
-        due.is("39 no such shelf", m.shelf(-1, 2, 0), -1);
-        due.is("39 no such what", m.shelf(0, 3, 0), -1);
-        due.is("39 no such what", m.shelf(0, -1, 0), -1);
-        due.is("39 no such one", m.shelf(1, 0, 6), -1);
-        due.is("39 no such one", m.shelf(1, 0, -1), -1);
-        due.is("39 no such sheet", m.shelf(1, 1, 4), -1);
-        due.is("39 no such sheet", m.shelf(1, 1, -1), -1);
-        due.is("39 unchanged", m.taken(1, 5), 5);
+        m.sheet(2, 1, 17);
+        due.is("39 a row", m.shelf(0, 1, 2), 1);
+        due.is("40 how many items", m.taken(0, 11), 17);
         m.mind(5, 3, 0);
         due.is("40 of the kind that it is now", m.taken(1, 1), 5);
         Due.read(m, "buyer;");
         due.is("40 no such one at the time", m.taken(1, 1), -11);
         Due.read(m, "buyer;buyer;buyer;buyer;buyer;clerk;");
         due.is("40 such a one again", m.taken(1, 2), 5);
-    }
-
-    private static void rowsOnShelves() {
-        WoolMarket m = Due.told("buyer;");
-        for (int sort = 0; sort < 4; sort++) {
-            m.sheet(sort, sort, 7 + sort);
-            due.is("39 row", m.shelf(0, 1, sort), 1);
-            for (int as = 0; as < 4; as++) {
-                due.is("40 row", m.taken(0, 10 + as), as == sort ? 7 + sort : -13);
-            }
-            due.is("40 row as one", m.taken(0, 0), -13);
-        }
-        m.sheet(3, 0, 2);
-        due.is("40 the row stays on the shelf", m.taken(0, 13), 10);
-        m.sheet(3, -1, 0);
-        due.is("40 the row stays on the shelf", m.taken(0, 13), 10);
-        due.is("39 a missing row", m.shelf(0, 1, 3), 1);
-        due.is("40 is nothing", m.taken(0, 13), -11);
     }
 
     private static void promises41And42() {
@@ -265,37 +164,19 @@ public final class ThingsTest {
         due.is("42 below, " + call, m.trace(-1), -3);
     }
 
-    private static void partedBy0() {
-        WoolMarket m = Due.told("buyer;wife truth 1;magistrate truth 2;knitter truth 3;clerk truth 4;uncle truth 5;");
-        acts(m, 0, 2, 9, -15, 12);
-        acts(m, 1, 2, 9, -15, 12);
-        acts(m, 2, 3, 9, -15, 31, 13, 11, 30, 10, 12);
-        acts(m, 3, 2, 9, -15, 50, 12);
-        acts(m, 4, 3, 9, -15, 31, 13, 41, 11, 40, 30, 10, 40, 30, 10, 12);
-        // What the uncle sees comes behind his parting, and isn't begun.
-        acts(m, 5, 2, 9, -15, 61, 12);
-        acts(m, 5, 0, 9, 29, 10);
-    }
-
-    private static void actsWithoutTrace() {
+    /** A SHELF holds a number: what acts is who bears it at the time, of the kind and truth of that time. */
+    private static void actsOfThoseWhoAreThereNow() {
         WoolMarket m = Due.told("buyer truth 9;wife;");
-        m.sheet(0, 0, 3);
         m.shelf(0, 0, 0);
-        m.shelf(1, 1, 0);
-        m.shelf(2, 0, 1);
-        int[][] wrong = {{-1, 0}, {4, 0}, {0, -1}, {0, 4}, {1, 0}, {3, 0}};
-        for (int[] w : wrong) {
-            due.is("41 an act", m.act(0, 1, 4), 3);
-            due.is("42 its trace", m.many(6), 2);
-            due.is("41 none", m.act(w[0], w[1], 5), 0);
-            due.is("42 no trace", m.many(6), 0);
-            due.is("42 no trace", m.trace(0), -3);
-        }
-        due.is("41 wife", m.act(2, 0, 5), 9);
+        due.is("41 buyer", m.act(0, 1, 5), 6);
+        m.mind(0, 1, 0);
+        due.is("41 wife", m.act(0, 1, 5), 0);
+        m.change(0, 1, 2);
+        due.is("41 of another truth", m.act(0, 1, 5), 7);
+        m.trade(0, 1);
+        due.is("41 the other wife", m.act(0, 1, 5), 9);
         Due.read(m, "clerk truth 9;");
-        due.is("41 no such one at the time", m.act(2, 0, 5), 0);
-        due.is("42 no trace", m.many(6), 0);
-        due.is("41 of the kind that it is now", m.act(0, 0, 5), 3 - 7);
+        due.is("41 the clerk of another market", m.act(0, 0, 5), 3 - 7);
     }
 
     private static void promises44And45() {
